@@ -378,7 +378,7 @@ public final class EscapeLights {
 
     /** To be called by each change when nothing can refuse it any more, and before it. */
     private void remember() {
-        history.record(now);
+        history.keep(now);
         planner.forget();
     }
 
@@ -598,11 +598,14 @@ public final class EscapeLights {
             if (gone == null) {
                 return;
             }
+            int last = i;
             for (int k = i + 1; k < lightCount && k < MOST_LIGHTS; k++) {
                 lights[k - 1] = lights[k];
+                last = k;
             }
+            // to be used again by the next light that is added
+            lights[last] = gone;
             lightCount--;
-            lights[lightCount] = gone;
         }
 
         boolean hasRoute(int r) {
@@ -794,7 +797,7 @@ public final class EscapeLights {
         int next;
         int many;
 
-        void record(Building present) {
+        void keep(Building present) {
             slot(next).copyFrom(present);
             next = (next + 1) % MOST_STATES;
             many = Math.min(many + 1, MOST_STATES);
@@ -1054,7 +1057,6 @@ public final class EscapeLights {
 
         /** Gives more than one day to all sets that alone reach a place of a route that is safe. */
         void markForbidden(Building building, Reach reach, int all) {
-            fewest[0] = 0;
             for (int set = 1; set <= all && set <= EVERY_LIGHT; set++) {
                 fewest[set] = 1;
             }

@@ -95,9 +95,10 @@ public final class BuildingTest {
         Check.write(x, "p1c0b0l0;p2c0b0l0;p3c0b0l0;p4c0b0l0;p5c0b0l0;p6c0b0l0;p7c0b0l0;p8c0b0l0;r1-1;");
         due("load() of 77 bytes", x.load(), 108);
         due("load: light(7, 0)", x.light(7, 0), 8);
-        Check.write(x, "r1-1;r1-2;r1-3;r1-4;r1-5;r1-6;p9c3b3l2m;");
+        Check.write(x, "r1-1;r1-2;r1-3;r1-4;r1-5;r100-200;p9c3b3l2m;");
         due("load() of 6 routes", x.load(), 601);
-        due("load: routeAt(5, 1)", x.routeAt(5, 1), 6);
+        due("load: routeAt(5, 0)", x.routeAt(5, 0), 100);
+        due("load: routeAt(5, 1)", x.routeAt(5, 1), 200);
     }
 
     private static void faults() {
@@ -126,6 +127,10 @@ public final class BuildingTest {
         fault("p1c3", 4);
         fault("p1c3b", 5);
         fault("p1c3b4", 5);
+        fault("p1c0b00l0;", 6);
+        fault("p1c0b0l00;", 8);
+        fault("p1c0b10l0;", 6);
+        fault("p1c0b0l10;", 8);
         fault("p1c3b3l", 7);
         fault("p1c3b3l3", 7);
         fault("p1c3b3l9;", 7);
@@ -138,6 +143,7 @@ public final class BuildingTest {
         fault("r", 1);
         fault("r-", 1);
         fault("r1", 2);
+        fault("r0001-2;", 4);
         fault("r1;", 2);
         fault("r201-202;", 3);
         fault("r1-", 3);

@@ -64,6 +64,7 @@ public final class HappensTest {
         x.add(0, 0, 0, 1);
         x.add(0, 0, 0, 2);
         due("swapAll(9000) without stock", x.swapAll(9000), 0);
+        due("swapAll(1)", x.swapAll(1), 0);
         x.setStock(0, 9);
         due("swapAll(3000)", x.swapAll(3000), 0);
         due("swapAll(3001)", x.swapAll(3001), 1);
@@ -72,6 +73,8 @@ public final class HappensTest {
         due("told(6)", x.told(6), 7);
         due("light(1, 3)", x.light(1, 3), 1);
         due("told(13)", x.told(13), 8);
+        due("undo()", x.undo(), 7);
+        due("told(6)", x.told(6), 8);
     }
 
     private static void swapAllTakesTheGreatestKind() {
@@ -157,6 +160,13 @@ public final class HappensTest {
         due("pass(1)", x.pass(1), 2);
         due("the charge that is too great", x.light(1, 7), 1776);
         due("its health", x.light(0, 5), 996);
+        EscapeLights y = new EscapeLights();
+        y.add(0, 0, 0, 0);
+        due("pass(1001)", y.pass(1001), 1);
+        due("told(5)", y.told(5), 1001);
+        due("pass(2000)", y.pass(2000), 1);
+        due("told(5)", y.told(5), 3001);
+        due("its health", y.light(0, 5), 997);
     }
 
     private static void lastHours() {
@@ -281,7 +291,11 @@ public final class HappensTest {
         for (int k = 1; k <= 334; k++) {
             x.test(15, true);
             for (int battery = 0; battery < 4; battery++) {
-                due("health after " + k, x.light(battery, 5), Math.max(0, 1000 - k * (5 - battery)));
+                int health = Math.max(0, 1000 - k * (5 - battery));
+                due("health after " + k, x.light(battery, 5), health);
+                // the capacity falls by a minute as soon as a whole one is gone
+                int rated = new int[] {60, 90, 120, 180}[battery];
+                due("capacity after " + k, x.light(battery, 6), rated * health / 800);
             }
         }
         due("capacity", x.light(0, 6), 0);

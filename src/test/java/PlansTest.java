@@ -10,6 +10,7 @@ public final class PlansTest {
         noPlan();
         unsafeRoutesDoNotCount();
         lightsThatAreNotReady();
+        askedFirst();
         plansFollowChanges();
         ifLamp();
         ifLampEndsABurntOutOne();
@@ -63,6 +64,9 @@ public final class PlansTest {
         for (int set = 0; set < 16; set++) {
             due("allowed(" + set + ")", x.allowed(set), (set & 6) == 6 || set >= 8 ? 0 : 1);
         }
+        x.renew(1);
+        due("allowed(4): the last ready light", x.allowed(4), 0);
+        x.undo();
         x.route(50, 55);
         x.dropRoute(1);
         due("allowed(8) of a route that is not safe", x.allowed(8), 1);
@@ -98,6 +102,9 @@ public final class PlansTest {
         duePlan(y, 33, 990);
         y.route(13, 13);
         due("only light 9 reaches 13", y.days(), -9);
+        EscapeLights z = lightsAt(7, 7, 7, 7, 7, 7, 7, 7, 7, 7);
+        z.route(3, 11);
+        duePlan(z, 1, 1022);
     }
 
     private static void smallestMask() {
@@ -150,6 +157,31 @@ public final class PlansTest {
         duePlan(x, 7);
         x.pass(23);
         duePlan(x, 1, 6);
+    }
+
+    /** Each way to ask for the plan looks at what has changed. */
+    private static void askedFirst() {
+        EscapeLights x = lightsAt(10, 10);
+        due("day(0)", x.day(0), 3);
+        x.route(14, 14);
+        due("day(0)", x.day(0), 1);
+        x.undo();
+        due("light(1, 12)", x.light(1, 12), 0);
+        x.route(14, 14);
+        due("light(1, 12)", x.light(1, 12), 1);
+        x.route(15, 15);
+        x.add(19, 0, 0, 0);
+        due("only light 2 reaches 15", x.carryOut(), -2);
+        due("allowed(4)", x.allowed(4), 0);
+        x.dropRoute(1);
+        due("allowed(4)", x.allowed(4), 1);
+        due("carryOut()", x.carryOut(), 0);
+        // place 14 lies too far from a light at 9
+        EscapeLights y = lightsAt(10, 9, 10);
+        y.route(13, 14);
+        due("allowed(1)", y.allowed(1), 1);
+        due("allowed(5): place 14 alone is left", y.allowed(5), 0);
+        due("allowed(3)", y.allowed(3), 1);
     }
 
     /** Each change is followed, and each undo. */

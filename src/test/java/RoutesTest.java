@@ -46,6 +46,8 @@ public final class RoutesTest {
         dueOf(x, 1, 5, 35, 2, 0, 0, 0, 0);
         dueOf(x, 2, 14, 16, 0, 1, 112, 0, 1);
         dueOf(x, 3, 17, 17, 0, 1, 225, 0, 1);
+        x.setNeed(75);
+        dueOf(x, 0, 6, 34, 0, 1, 75, 0, 0);
         x.setNeed(76);
         dueOf(x, 0, 6, 34, 3, 0, 75, 0, 0);
         dueOf(x, 2, 14, 16, 0, 1, 112, 0, 1);
@@ -70,6 +72,27 @@ public final class RoutesTest {
         dueOf(x, 1, 0, 9, 0, 1, 75, 0, 0);
         dueOf(x, 2, 191, 200, 0, 1, 75, 0, 3);
         dueOf(x, 3, 190, 190, 1, 0, 0, 0, 0);
+        lightsAtTheEnds();
+    }
+
+    /** The first and the last place, when their lights come and go. */
+    private static void lightsAtTheEnds() {
+        EscapeLights x = new EscapeLights();
+        x.add(5, 0, 3, 1);
+        x.add(195, 1, 3, 1);
+        x.route(0, 1);
+        x.route(199, 200);
+        dueOf(x, 0, 0, 1, 0, 1, 225, 0, 0);
+        dueOf(x, 1, 199, 200, 0, 1, 225, 0, 1);
+        x.setStock(0, 2);
+        x.swap(0, 0);
+        x.swap(1, 0);
+        dueOf(x, 0, 0, 1, 1, 0, 0, 0, 0);
+        dueOf(x, 1, 199, 200, 1, 0, 0, 0, 0);
+        due("told(3)", x.told(3), 0);
+        EscapeLights y = new EscapeLights();
+        y.add(0, 0, 0, 0);
+        due("told(3) without routes", y.told(3), 0);
     }
 
     /** Circuits without lights count too, and the first one of equal ones is told. */
@@ -85,6 +108,27 @@ public final class RoutesTest {
         dueOf(x, 0, 10, 14, 0, 1, 225, 150, 1);
         x.add(10, 0, 3, 0);
         dueOf(x, 0, 10, 14, 0, 1, 225, 225, 0);
+        EscapeLights y = new EscapeLights();
+        y.add(10, 0, 0, 0);
+        y.add(10, 0, 1, 0);
+        y.add(10, 1, 2, 0);
+        y.add(10, 2, 3, 0);
+        y.route(10, 10);
+        dueOf(y, 0, 10, 10, 0, 1, 225, 150, 2);
+        y.test(8, true);
+        dueOf(y, 0, 10, 10, 0, 1, 150, 112, 1);
+        EscapeLights alone = new EscapeLights();
+        alone.add(10, 2, 3, 0);
+        alone.route(10, 10);
+        dueOf(alone, 0, 10, 10, 0, 1, 225, 0, 2);
+        // without circuit 0, 1, 2, 3 it lasts 225, 75, 112, 225 minutes
+        EscapeLights z = new EscapeLights();
+        z.add(10, 1, 3, 2);
+        z.add(10, 3, 0, 2);
+        z.add(20, 2, 3, 2);
+        z.add(20, 3, 1, 2);
+        z.route(9, 21);
+        dueOf(z, 0, 9, 21, 0, 1, 225, 75, 1);
     }
 
     /** Promise 20. */

@@ -5,6 +5,7 @@ public final class WholeTest {
     public static void main(String[] args) {
         told();
         undo();
+        undoOfStocks();
         undoOfEachChange();
         eightStates();
         refusedCallsRecordNothing();
@@ -71,6 +72,16 @@ public final class WholeTest {
         due("told(0)", x.told(0), 0);
         due("undo()", x.undo(), -2);
         due("undo() is no change", x.told(13), 0);
+    }
+
+    private static void undoOfStocks() {
+        EscapeLights x = new EscapeLights();
+        for (int lamp = 0; lamp <= 2; lamp++) {
+            x.setStock(lamp, 10 + lamp);
+            x.setStock(lamp, 20 + lamp);
+            x.undo();
+            due("the stock of " + lamp, x.told(6 + lamp), 10 + lamp);
+        }
     }
 
     private static void undoOfEachChange() {
