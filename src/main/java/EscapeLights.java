@@ -903,16 +903,21 @@ public final class EscapeLights {
         int readNumber(int digits, int least, int most) {
             int begin = at;
             int number = 0;
-            for (int k = 0; k < digits && peek() >= '0' && peek() <= '9'; k++) {
+            for (int k = 0; k < digits && isAtDigit(); k++) {
                 number = 10 * number + peek() - '0';
                 at++;
             }
-            if (at == begin) {
+            if (at == begin || isAtDigit()) {
+                // no digit, or one too many, which comes before what the number is
                 fail(at);
             } else if (number < least || number > most) {
                 fail(at - 1);
             }
             return number;
+        }
+
+        boolean isAtDigit() {
+            return peek() >= '0' && peek() <= '9';
         }
 
         /** Only the first fault counts: the reader goes on behind it to the end of the part. */

@@ -117,12 +117,17 @@ public final class BuildingTest {
         fault("p999", 3);
         fault("p2000", 4);
         fault("p0001", 4);
-        fault("p2010", 3);
+        fault("p2010", 4);
+        fault("p2012", 4);
+        fault("p20123;", 4);
+        fault("p9999c0b0l0;", 4);
+        fault("p201;", 3);
         fault("p-1", 1);
         fault("p1c", 3);
         fault("p1cb", 3);
         fault("p1c4", 3);
         fault("p1c4b0l0;", 3);
+        fault("p1c45b0l0;", 4);
         fault("p1c00b0l0;", 4);
         fault("p1c3", 4);
         fault("p1c3b", 5);
@@ -130,7 +135,9 @@ public final class BuildingTest {
         fault("p1c0b00l0;", 6);
         fault("p1c0b0l00;", 8);
         fault("p1c0b10l0;", 6);
+        fault("p1c0b45l0;", 6);
         fault("p1c0b0l10;", 8);
+        fault("p1c0b0l35", 8);
         fault("p1c3b3l", 7);
         fault("p1c3b3l3", 7);
         fault("p1c3b3l9;", 7);
@@ -146,12 +153,14 @@ public final class BuildingTest {
         fault("r0001-2;", 4);
         fault("r1;", 2);
         fault("r201-202;", 3);
+        fault("r2012-202;", 4);
         fault("r1-", 3);
         fault("r1-;", 3);
         fault("r1-1", 4);
         fault("r1-1p", 4);
         fault("r1-201", 5);
         fault("r1-0200;", 6);
+        fault("r1-2010;", 6);
         fault("r1-0", 3);
         fault("r1-0;", 3);
         fault("r50-4", 4);
@@ -159,6 +168,7 @@ public final class BuildingTest {
         fault("r50-5", 4);
         fault("r50-51", 6);
         fault("r50-049x", 6);
+        fault("r50-0490", 7);
         fault("r1-1;r1-1;r1-1;r1-1;r1-1;r1-1;r", 30);
         fault("r1-1;r1-1;r1-1;r1-1;r1-1;r1-1;p", 31);
     }

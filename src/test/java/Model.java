@@ -14,10 +14,10 @@ final class Model {
     private static final int[] WEAR = {5, 4, 3, 2};
     private static final int[] REACH = {4, 6, 9};
     private static final int[] LIFE = {3000, 6000, 9000};
-    private static final String PLACE = "([01]\\d\\d|200|\\d\\d?)";
+    /** The form of a text, whatever its numbers are. */
     private static final Pattern TEXT =
-        Pattern.compile("(p" + PLACE + "c[0-3]b[0-3]l[0-2]m?;|r" + PLACE + "-" + PLACE + ";)*");
-    private static final Pattern ROUTE = Pattern.compile("r(\\d{1,3})-(\\d{1,3})");
+        Pattern.compile("(p\\d{1,3}c\\db\\dl\\dm?;|r\\d{1,3}-\\d{1,3};)*");
+    private static final Pattern NUMBER = Pattern.compile("([pcblr-])(\\d+)");
     private static final Pattern PART =
         Pattern.compile("p(\\d+)c(\\d)b(\\d)l(\\d)(m?);|r(\\d+)-(\\d+);");
 
@@ -256,7 +256,7 @@ final class Model {
         return before;
     }
 
-    /** The length of the longest beginning of the text that some right text begins with. */
+    /** The length of the longest beginning of the text that some text of the right form begins with. */
     private int rightBeginning() {
         for (int k = 0; k < text.length(); k++) {
             Matcher matcher = TEXT.matcher(text.substring(0, k + 1));
@@ -267,16 +267,28 @@ final class Model {
         return text.length();
     }
 
+    /** The first number that is not right, looked at only if no digit too many stands behind it. */
+    private int faultOfNumbers(int end) {
+        Matcher number = NUMBER.matcher(text.substring(0, end));
+        int before = 0;
+        while (number.find()) {
+            int value = Integer.parseInt(number.group(2));
+            char sign = number.group(1).charAt(0);
+            int most = sign == 'l' ? 2 : sign == 'c' || sign == 'b' ? 3 : 200;
+            int behind = number.end();
+            boolean goesOn = behind < text.length() && Character.isDigit(text.charAt(behind));
+            if (!goesOn && out(value, sign == '-' ? before : 0, most)) {
+                return behind - 1;
+            }
+            before = value;
+        }
+        return 81;
+    }
+
     private int fault() {
         int fault = rightBeginning();
         boolean whole = fault == text.length() && TEXT.matcher(text).matches();
-        Matcher route = ROUTE.matcher(text);
-        int first = whole ? 81 : fault;
-        while (route.find() && route.end() <= fault) {
-            if (Integer.parseInt(route.group(2)) < Integer.parseInt(route.group(1))) {
-                first = Math.min(first, route.end() - 1);
-            }
-        }
+        int first = Math.min(whole ? 81 : fault, faultOfNumbers(fault));
         int routes = 0;
         int lights = 0;
         for (int k = 0; k < fault; k++) {

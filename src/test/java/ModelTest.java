@@ -217,6 +217,27 @@ public final class ModelTest {
         return "r" + from + "-" + (from + chance.nextInt(100)) + ";";
     }
 
+    /** A part whose numbers are now and then too great, too small or too long. */
+    private static String roughPart(Random chance) {
+        if (chance.nextInt(3) > 0) {
+            return "p" + digits(chance, 3, 205) + "c" + digits(chance, 1, 4) + "b" + digits(chance, 1, 4)
+                + "l" + digits(chance, 1, 3) + (chance.nextBoolean() ? "m;" : ";");
+        }
+        return "r" + digits(chance, 3, 205) + "-" + digits(chance, 3, 205) + ";";
+    }
+
+    /** Mostly a number below a bound; now and then as many digits as may stand there, or one or two more. */
+    private static String digits(Random chance, int many, int bound) {
+        if (chance.nextInt(5) > 0) {
+            return "" + chance.nextInt(bound);
+        }
+        StringBuilder number = new StringBuilder();
+        for (int k = many + chance.nextInt(3); k > 0; k--) {
+            number.append(chance.nextInt(10));
+        }
+        return number.toString();
+    }
+
     /** Buildings by chance in which the lights lie close and the routes are mostly safe. */
     private static void plans() {
         Random chance = new Random(5);
@@ -259,7 +280,7 @@ public final class ModelTest {
         for (int n = 0; n < 20000; n++) {
             StringBuilder text = new StringBuilder();
             for (int k = chance.nextInt(5); k >= 0; k--) {
-                text.append(part(chance));
+                text.append(n % 4 == 0 ? roughPart(chance) : part(chance));
             }
             for (int k = chance.nextInt(3); k > 0; k--) {
                 int at = chance.nextInt(text.length());
