@@ -282,29 +282,34 @@ public final class HappensTest {
         due("its result", x.light(0, 11), 0);
     }
 
-    /** The wears of the classes, down to a health of 0. */
+    /** The wears of the classes, down to a health of 0; each object is looked at for a hundred tests. */
     private static void healthEnds() {
-        EscapeLights x = new EscapeLights();
         for (int battery = 0; battery < 4; battery++) {
-            x.add(0, 0, battery, 2);
-        }
-        for (int k = 1; k <= 334; k++) {
-            x.test(15, true);
-            for (int battery = 0; battery < 4; battery++) {
-                int health = Math.max(0, 1000 - k * (5 - battery));
-                due("health after " + k, x.light(battery, 5), health);
-                // the capacity falls by a minute as soon as a whole one is gone
-                int rated = new int[] {60, 90, 120, 180}[battery];
-                due("capacity after " + k, x.light(battery, 6), rated * health / 800);
+            for (int before = 0; before < 334; before += 100) {
+                EscapeLights x = new EscapeLights();
+                x.add(0, 0, battery, 2);
+                Edge.test(x, 1, before);
+                for (int k = before + 1; k <= Math.min(334, before + 100); k++) {
+                    x.test(1, true);
+                    int health = Math.max(0, 1000 - k * (5 - battery));
+                    due("health after " + k, x.light(0, 5), health);
+                    // the capacity falls by a minute as soon as a whole one is gone
+                    int rated = new int[] {60, 90, 120, 180}[battery];
+                    due("capacity after " + k, x.light(0, 6), rated * health / 800);
+                }
             }
         }
-        due("capacity", x.light(0, 6), 0);
-        due("capacity", x.light(3, 6), 5 * 180 * 332 / 4000);
-        due("pass(1000)", x.pass(1000), 1);
-        due("health", x.light(0, 5), 0);
-        due("health", x.light(3, 5), 331);
-        due("charge", x.light(0, 7), 0);
-        due("charge", x.light(3, 7), 24 * (5 * 180 * 331 / 4000));
+        EscapeLights y = new EscapeLights();
+        y.add(0, 0, 0, 2);
+        y.add(0, 0, 3, 2);
+        Edge.test(y, 3, 334);
+        due("capacity", y.light(0, 6), 0);
+        due("capacity", y.light(1, 6), 5 * 180 * 332 / 4000);
+        due("pass(1000)", y.pass(1000), 1);
+        due("health", y.light(0, 5), 0);
+        due("health", y.light(1, 5), 331);
+        due("charge", y.light(0, 7), 0);
+        due("charge", y.light(1, 7), 24 * (5 * 180 * 331 / 4000));
     }
 
     /** Promise 18. */

@@ -48,7 +48,7 @@ public final class RoomTest {
             case 9: x.drop(call % 10); break;
             case 10: x.add(12, 1, 2, 0); break;
             case 11: x.setStock(1, 50); break;
-            case 12: Check.write(x, "p"); break;
+            case 12: x.type('p'); break;
             case 13: x.load(); break;
             case 14: x.dropRoute(0); break;
             default: x.route(11, 13); break;
