@@ -14,6 +14,7 @@ public final class LightsEdgeTest {
         healthIsAtLeastZero();
         healthOfOneAndLess();
         capacityOfLowHealth();
+        capacityJustBelowAMinuteMore();
         fullWhenAdded();
         chargeIsAtLeastZero();
         chargeIsAtMostFull();
@@ -238,6 +239,31 @@ public final class LightsEdgeTest {
         Edge.test(z, 1, 497);
         due("health 6: 1.35", z.light(0, 6), 1);
         due("light(0, 5)", z.light(0, 5), 6);
+    }
+
+    private static void capacityJustBelowAMinuteMore() {
+        CHECK.sentence("Its capacity, in minutes, is 5 * (rated time) * health / 4000: truncated where least is missing");
+        EscapeLights x = one(3, 0);
+        x.pass(1000);
+        Edge.test(x, 1, 4);
+        due("light(0, 5)", x.light(0, 5), 991);
+        due("health 991: 222.975", x.light(0, 6), 222);
+        EscapeLights y = one(1, 0);
+        y.pass(1000);
+        Edge.test(y, 1, 12);
+        due("light(0, 5)", y.light(0, 5), 951);
+        due("health 951: 106.9875", y.light(0, 6), 106);
+        // health 800 gives whole minutes
+        int[] tests = {40, 50, 0, 100};
+        int[] capacity = {60, 90, 0, 180};
+        for (int battery : new int[] {0, 1, 3}) {
+            EscapeLights z = one(battery, 0);
+            Edge.test(z, 1, tests[battery]);
+            due("light(0, 5)", z.light(0, 5), 800);
+            due("health 800 of class " + battery, z.light(0, 6), capacity[battery]);
+            Edge.test(z, 1, 1);
+            due("a test more", z.light(0, 6), capacity[battery] - 1);
+        }
     }
 
     private static void fullWhenAdded() {

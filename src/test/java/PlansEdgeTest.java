@@ -13,6 +13,7 @@ public final class PlansEdgeTest {
         allLightsAreDivided();
         asAllLightsAreNow();
         noPlanWithAnyNumberOfDays();
+        eachPlaceOfARoute();
         fewestDays();
         theLightWithTheSmallestNumber();
         theSmallestMask();
@@ -198,6 +199,39 @@ public final class PlansEdgeTest {
         x.undo();
         x.renew(3);
         due("days(): the other one is not ready", x.days(), NONE);
+    }
+
+    /** The place that few lights reach is the first one, the last one, or one between them. */
+    private static void eachPlaceOfARoute() {
+        CHECK.sentence("There is no plan if there is none with any number of days: by any place of a route");
+        // light 0 reaches 6 to 14, light 1 reaches 7 to 15, light 2 reaches 8 to 16
+        EscapeLights x = Edge.lightsAt(10, 11, 12);
+        x.route(6, 16);
+        due("days(): only light 0 reaches 6", x.days(), NONE);
+        x.dropRoute(0);
+        x.route(7, 16);
+        due("days(): only light 2 reaches 16", x.days(), NONE);
+        x.dropRoute(0);
+        x.route(6, 14);
+        due("days(): only light 0 reaches 6", x.days(), NONE);
+        x.dropRoute(0);
+        x.route(7, 15);
+        // place 7 needs light 0 or 1, place 15 light 1 or 2
+        duePlan(x, 5, 2);
+        x.dropRoute(0);
+        x.route(8, 15);
+        // place 8 needs any of them now, place 15 still light 1 or 2
+        duePlan(x, 3, 4);
+        x.dropRoute(0);
+        x.route(7, 14);
+        duePlan(x, 1, 6);
+        // only light 1 reaches 15, which lies between two others
+        EscapeLights y = Edge.lightsAt(10, 15, 20, 10, 20);
+        y.route(14, 16);
+        due("days(): only light 1 reaches 15", y.days(), NONE);
+        y.dropRoute(0);
+        y.route(16, 16);
+        duePlan(y, 3, 28);
     }
 
     private static void fewestDays() {
@@ -565,7 +599,9 @@ public final class PlansEdgeTest {
         two.route(10, 10);
         Edge.pass(two, 99953);
         due("carryOut() of two days from 99953", two.carryOut(), FULL);
-        due("told(11)", two.told(11), 0);
+        due("told(5)", two.told(5), 99953);
+        due("told(10): the first day alone is not carried out", two.told(10), 0);
+        due("light(0, 11)", two.light(0, 11), NONE);
         two.undo();
         two.pass(1952);
         due("told(5)", two.told(5), 99952);
